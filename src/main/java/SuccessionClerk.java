@@ -259,7 +259,7 @@ public final class SuccessionClerk {
     private static final class Survey {
         final Family family;
         int deceased;
-        /** NONE when there is none who is left. */
+        /** The spouse who is left; NONE when there is none such. */
         int widowed;
         /** As the face's order tells it. */
         int taker;
@@ -269,7 +269,6 @@ public final class SuccessionClerk {
         /** Whether the line of each has heirs, a row of persons for each height. */
         final boolean[] lines = new boolean[(HIGHEST_ORDER + 1) * MOST_PERSONS];
         final boolean[] reached = new boolean[MOST_PERSONS];
-        final boolean[] above = new boolean[MOST_PERSONS];
 
         Survey(Family family) {
             this.family = family;
@@ -344,7 +343,6 @@ public final class SuccessionClerk {
             if (taker > HIGHEST_ORDER || !left[who]) {
                 return NONE;
             }
-            climbTo(taker);
             for (int top = 0; top <= who; top++) {
                 if (beginsOrder(top) && stemReaches(top, who)) {
                     return top;
@@ -354,48 +352,26 @@ public final class SuccessionClerk {
         }
 
         private boolean beginsOrder(int top) {
-            return taker == 0 ? family.isChild(top, deceased) : above[top];
+            return taker == 0 ? family.isChild(top, deceased) : isAncestor(family, top, deceased, taker);
         }
 
-        /** Marks the ancestors of the deceased at a height. */
-        private void climbTo(int height) {
-            clear(above);
-            above[deceased] = true;
-            for (int step = 0; step < height; step++) {
-                clear(reached);
-                for (int who = 0; who < family.count; who++) {
-                    if (above[who]) {
-                        mark(family.first[who]);
-                        mark(family.second[who]);
-                    }
-                }
-                System.arraycopy(reached, 0, above, 0, MOST_PERSONS);
+        private static boolean isAncestor(Family family, int top, int who, int height) {
+            if (who == NONE || height <= 0) {
+                return who == top;
             }
-        }
-
-        private void mark(int who) {
-            if (who != NONE) {
-                reached[who] = true;
-            }
+            return isAncestor(family, top, family.first[who], height - 1)
+                || isAncestor(family, top, family.second[who], height - 1);
         }
 
         private boolean stemReaches(int top, int who) {
-            clear(reached);
-            reached[top] = true;
-            for (int next = top + 1; next <= who; next++) {
-                reached[next] = passesOn(family.first[next]) || passesOn(family.second[next]);
+            for (int next = 0; next <= who; next++) {
+                reached[next] = next == top || passesOn(family.first[next]) || passesOn(family.second[next]);
             }
             return reached[who];
         }
 
         private boolean passesOn(int parent) {
             return parent != NONE && reached[parent] && !left[parent];
-        }
-
-        private static void clear(boolean[] row) {
-            for (int i = 0; i < row.length; i++) {
-                row[i] = false;
-            }
         }
     }
 
@@ -435,6 +411,7 @@ public final class SuccessionClerk {
         /** For the order 0 alone: elsewhere gifts do not count. */
         void divideWithGifts(long cents) {
             hotchpot.gather(cents * (4 - survey.spouseQuarters()));
+            hotchpot.releaseThoseAbove();
             long unit = branchProduct();
             long quarter = unit * hotchpot.size;
             startWith(4 * quarter, cents * quarter);
@@ -581,11 +558,10 @@ public final class SuccessionClerk {
                     size++;
                 }
             }
-            releaseThoseAbove();
         }
 
         /** Who is released lowers the equal part, so it does not matter who is so first. */
-        private void releaseThoseAbove() {
+        void releaseThoseAbove() {
             for (int round = 0; round < MOST_PERSONS; round++) {
                 int child = findOneAbove();
                 if (child == NONE) {

@@ -2,6 +2,9 @@
 final class Check {
     private static final int NONE = SuccessionClerk.NONE;
     private int wrong;
+    private SuccessionClerk watched;
+    private int watchedPersons;
+    private String watchedState;
 
     void same(String what, long got, long due) {
         if (got != due) {
@@ -19,22 +22,23 @@ final class Check {
         }
     }
 
-    /** The call throws just this, and what the clerk tells of the first persons stays the same. */
-    void refused(SuccessionClerk clerk, int persons, Class<?> due, String what, Runnable call) {
-        String before = stateOf(clerk, persons);
-        String got = outcomeOf(call);
-        if (!got.equals(due.getSimpleName())) {
-            fail(what + " ended with " + got + ", due is " + due.getSimpleName());
-        }
-        same("the state after " + what, stateOf(clerk, persons), before);
+    /** Notes what the clerk tells of its persons, for unchanged. */
+    void watch(SuccessionClerk clerk, int persons) {
+        watched = clerk;
+        watchedPersons = persons;
+        watchedState = stateOf(clerk, persons);
     }
 
-    void refusedArgument(SuccessionClerk clerk, int persons, String what, Runnable call) {
-        refused(clerk, persons, IllegalArgumentException.class, what, call);
+    void unchanged() {
+        same("the state after calls that were refused", stateOf(watched, watchedPersons), watchedState);
     }
 
-    void refusedState(SuccessionClerk clerk, int persons, String what, Runnable call) {
-        refused(clerk, persons, IllegalStateException.class, what, call);
+    void refusedArgument(String what, Runnable call) {
+        same(what, outcomeOf(call), "IllegalArgumentException");
+    }
+
+    void refusedState(String what, Runnable call) {
+        same(what, outcomeOf(call), "IllegalStateException");
     }
 
     void fail(String what) {
@@ -70,27 +74,27 @@ final class Check {
         }
     }
 
-    /** Also tells whether there are as many persons as said, by asking for one more. */
+    /** Begins with whether there are more persons than said. */
     private static String stateOf(SuccessionClerk clerk, int persons) {
         StringBuilder state = new StringBuilder();
         state.append(outcomeOf(() -> clerk.spouse(persons))).append(' ').append(clerk.got(NONE));
         for (int of = 0; of < persons; of++) {
+            int estate = of;
             state.append('|').append(clerk.spouse(of)).append(' ').append(clerk.total(of));
-            state.append(' ').append(clerk.got(of)).append(' ').append(clerk.paid(of, NONE));
-            appendEstate(state, clerk, of, persons);
+            state.append(' ').append(clerk.got(of));
+            if (outcomeOf(() -> clerk.order(estate)).equals("no exception")) {
+                appendEstate(state, clerk, of, persons);
+            }
         }
         return state.toString();
     }
 
     private static void appendEstate(StringBuilder state, SuccessionClerk clerk, int of, int persons) {
-        int asked = of;
-        boolean died = outcomeOf(() -> clerk.order(asked)).equals("no exception");
-        state.append(died ? " order " + clerk.order(of) + " heirs " + clerk.heirs(of) : " lives");
+        state.append(" order ").append(clerk.order(of)).append(" heirs ").append(clerk.heirs(of));
+        state.append(" town ").append(clerk.paid(of, NONE));
         for (int who = 0; who < persons; who++) {
+            state.append(' ').append(clerk.share(of, who)).append(' ').append(clerk.stem(of, who));
             state.append(' ').append(clerk.paid(of, who));
-            if (died) {
-                state.append(' ').append(clerk.share(of, who)).append(' ').append(clerk.stem(of, who));
-            }
         }
     }
 }

@@ -36,13 +36,15 @@ public final class EntriesTest {
     private static void wrongDeaths() {
         SuccessionClerk clerk = Check.clerkWith(2);
         clerk.dies(0, 5);
-        CHECK.refusedState(clerk, 2, "died already", () -> clerk.dies(0, 6));
-        CHECK.refusedState(clerk, 2, "died already that day", () -> clerk.dies(0, 5));
-        CHECK.refusedArgument(clerk, 2, "died already, day 1000", () -> clerk.dies(0, 1000));
-        CHECK.refusedArgument(clerk, 2, "day 1000", () -> clerk.dies(1, 1000));
-        CHECK.refusedArgument(clerk, 2, "day -1", () -> clerk.dies(1, -1));
-        CHECK.refusedArgument(clerk, 2, "nobody", () -> clerk.dies(2, 5));
-        CHECK.refusedArgument(clerk, 2, "NONE", () -> clerk.dies(NONE, 5));
+        CHECK.watch(clerk, 2);
+        CHECK.refusedState("died already", () -> clerk.dies(0, 6));
+        CHECK.refusedState("died already that day", () -> clerk.dies(0, 5));
+        CHECK.refusedArgument("died already, day 1000", () -> clerk.dies(0, 1000));
+        CHECK.refusedArgument("day 1000", () -> clerk.dies(1, 1000));
+        CHECK.refusedArgument("day -1", () -> clerk.dies(1, -1));
+        CHECK.refusedArgument("nobody", () -> clerk.dies(2, 5));
+        CHECK.refusedArgument("NONE", () -> clerk.dies(NONE, 5));
+        CHECK.unchanged();
     }
 
     private static void excluded() {
@@ -77,10 +79,12 @@ public final class EntriesTest {
 
     private static void wrongExclusions() {
         SuccessionClerk clerk = Check.clerkWith(2);
-        CHECK.refusedArgument(clerk, 2, "nobody excluded", () -> clerk.exclude(2, 0, true));
-        CHECK.refusedArgument(clerk, 2, "NONE excluded", () -> clerk.exclude(NONE, 0, true));
-        CHECK.refusedArgument(clerk, 2, "from nobody", () -> clerk.exclude(0, 2, true));
-        CHECK.refusedArgument(clerk, 2, "from NONE", () -> clerk.exclude(0, NONE, false));
+        CHECK.watch(clerk, 2);
+        CHECK.refusedArgument("nobody excluded", () -> clerk.exclude(2, 0, true));
+        CHECK.refusedArgument("NONE excluded", () -> clerk.exclude(NONE, 0, true));
+        CHECK.refusedArgument("from nobody", () -> clerk.exclude(0, 2, true));
+        CHECK.refusedArgument("from NONE", () -> clerk.exclude(0, NONE, false));
+        CHECK.unchanged();
     }
 
     private static void gifts() {
@@ -101,19 +105,21 @@ public final class EntriesTest {
         clerk.person(0, NONE);
         clerk.person(2, NONE);
         clerk.gift(2, 0, 500000);
-        CHECK.refusedState(clerk, 4, "one cent too many", () -> clerk.gift(2, 0, 500001));
-        CHECK.refusedState(clerk, 4, "far too many", () -> clerk.gift(2, 0, 1000000));
-        CHECK.refusedArgument(clerk, 4, "a gift of 0", () -> clerk.gift(2, 0, 0));
-        CHECK.refusedArgument(clerk, 4, "a gift of -1", () -> clerk.gift(2, 0, -1));
-        CHECK.refusedArgument(clerk, 4, "a gift of 1000001", () -> clerk.gift(2, 0, 1000001));
-        CHECK.refusedArgument(clerk, 4, "the greatest int", () -> clerk.gift(2, 0, Integer.MAX_VALUE));
-        CHECK.refusedArgument(clerk, 4, "no parent", () -> clerk.gift(2, 1, 5));
-        CHECK.refusedArgument(clerk, 4, "a grandparent", () -> clerk.gift(3, 0, 5));
-        CHECK.refusedArgument(clerk, 4, "the other way round", () -> clerk.gift(0, 2, 5));
-        CHECK.refusedArgument(clerk, 4, "to itself", () -> clerk.gift(2, 2, 5));
-        CHECK.refusedArgument(clerk, 4, "to nobody", () -> clerk.gift(4, 0, 5));
-        CHECK.refusedArgument(clerk, 4, "from nobody", () -> clerk.gift(2, 4, 5));
-        CHECK.refusedArgument(clerk, 4, "from NONE, an unknown parent", () -> clerk.gift(2, NONE, 5));
+        CHECK.watch(clerk, 4);
+        CHECK.refusedState("one cent too many", () -> clerk.gift(2, 0, 500001));
+        CHECK.refusedState("far too many", () -> clerk.gift(2, 0, 1000000));
+        CHECK.refusedArgument("a gift of 0", () -> clerk.gift(2, 0, 0));
+        CHECK.refusedArgument("a gift of -1", () -> clerk.gift(2, 0, -1));
+        CHECK.refusedArgument("a gift of 1000001", () -> clerk.gift(2, 0, 1000001));
+        CHECK.refusedArgument("the greatest int", () -> clerk.gift(2, 0, Integer.MAX_VALUE));
+        CHECK.refusedArgument("no parent", () -> clerk.gift(2, 1, 5));
+        CHECK.refusedArgument("a grandparent", () -> clerk.gift(3, 0, 5));
+        CHECK.refusedArgument("the other way round", () -> clerk.gift(0, 2, 5));
+        CHECK.refusedArgument("to itself", () -> clerk.gift(2, 2, 5));
+        CHECK.refusedArgument("to nobody", () -> clerk.gift(4, 0, 5));
+        CHECK.refusedArgument("from nobody", () -> clerk.gift(2, 4, 5));
+        CHECK.refusedArgument("from NONE, an unknown parent", () -> clerk.gift(2, NONE, 5));
+        CHECK.unchanged();
         CHECK.same("nothing was added", clerk.gift(2, 0, 500000), 1000000);
     }
 
@@ -125,7 +131,9 @@ public final class EntriesTest {
         clerk.dies(0, 5);
         clerk.gift(2, 0, 60);
         clerk.amend(2, 1, NONE);
-        CHECK.refusedArgument(clerk, 4, "no parent any more", () -> clerk.gift(2, 0, 1));
+        CHECK.watch(clerk, 4);
+        CHECK.refusedArgument("no parent any more", () -> clerk.gift(2, 0, 1));
+        CHECK.unchanged();
         clerk.settle();
         CHECK.same("the gift does not count", clerk.paid(0, 3), 100);
         clerk.amend(2, NONE, 0);
@@ -154,10 +162,12 @@ public final class EntriesTest {
     private static void wrongEstates() {
         SuccessionClerk clerk = Check.clerkWith(2);
         clerk.estate(0, 8);
-        CHECK.refusedArgument(clerk, 2, "-1 cents", () -> clerk.estate(0, -1));
-        CHECK.refusedArgument(clerk, 2, "1000001 cents", () -> clerk.estate(0, 1000001));
-        CHECK.refusedArgument(clerk, 2, "nobody's", () -> clerk.estate(2, 1));
-        CHECK.refusedArgument(clerk, 2, "NONE's", () -> clerk.estate(NONE, 1));
+        CHECK.watch(clerk, 2);
+        CHECK.refusedArgument("-1 cents", () -> clerk.estate(0, -1));
+        CHECK.refusedArgument("1000001 cents", () -> clerk.estate(0, 1000001));
+        CHECK.refusedArgument("nobody's", () -> clerk.estate(2, 1));
+        CHECK.refusedArgument("NONE's", () -> clerk.estate(NONE, 1));
+        CHECK.unchanged();
         clerk.dies(0, 1);
         clerk.settle();
         CHECK.same("nothing changed", clerk.total(0), 8);

@@ -334,24 +334,26 @@ public final class HeirsTest {
     private static void wrongCalls() {
         SuccessionClerk clerk = Check.clerkWith(3);
         clerk.dies(0, 1);
-        CHECK.refusedState(clerk, 3, "heirs of the living", () -> clerk.heirs(1));
-        CHECK.refusedState(clerk, 3, "heir of the living", () -> clerk.heir(1, 0));
-        CHECK.refusedState(clerk, 3, "share of the living", () -> clerk.share(1, 0));
-        CHECK.refusedState(clerk, 3, "order of the living", () -> clerk.order(1));
-        CHECK.refusedState(clerk, 3, "stem of the living", () -> clerk.stem(1, 0));
-        CHECK.refusedArgument(clerk, 3, "heirs of nobody", () -> clerk.heirs(3));
-        CHECK.refusedArgument(clerk, 3, "heir of nobody", () -> clerk.heir(3, 0));
-        CHECK.refusedArgument(clerk, 3, "share of nobody", () -> clerk.share(3, 0));
-        CHECK.refusedArgument(clerk, 3, "order of nobody", () -> clerk.order(3));
-        CHECK.refusedArgument(clerk, 3, "stem of nobody", () -> clerk.stem(3, 0));
-        CHECK.refusedArgument(clerk, 3, "heirs of NONE", () -> clerk.heirs(NONE));
-        CHECK.refusedArgument(clerk, 3, "heir of NONE", () -> clerk.heir(NONE, 0));
-        CHECK.refusedArgument(clerk, 3, "order of NONE", () -> clerk.order(NONE));
-        CHECK.refusedArgument(clerk, 3, "nobody's share", () -> clerk.share(0, 3));
-        CHECK.refusedArgument(clerk, 3, "NONE's share", () -> clerk.share(0, NONE));
-        CHECK.refusedArgument(clerk, 3, "nobody's stem", () -> clerk.stem(0, 3));
-        CHECK.refusedArgument(clerk, 3, "NONE's stem", () -> clerk.stem(0, NONE));
-        CHECK.refusedArgument(clerk, 3, "nobody's share of the living", () -> clerk.share(1, 3));
-        CHECK.refusedArgument(clerk, 3, "nobody's stem of the living", () -> clerk.stem(1, NONE));
+        CHECK.watch(clerk, 3);
+        CHECK.refusedState("heirs of the living", () -> clerk.heirs(1));
+        CHECK.refusedState("heir of the living", () -> clerk.heir(1, 0));
+        CHECK.refusedState("share of the living", () -> clerk.share(1, 0));
+        CHECK.refusedState("order of the living", () -> clerk.order(1));
+        CHECK.refusedState("stem of the living", () -> clerk.stem(1, 0));
+        CHECK.refusedArgument("heirs of nobody", () -> clerk.heirs(3));
+        CHECK.refusedArgument("heir of nobody", () -> clerk.heir(3, 0));
+        CHECK.refusedArgument("share of nobody", () -> clerk.share(3, 0));
+        CHECK.refusedArgument("order of nobody", () -> clerk.order(3));
+        CHECK.refusedArgument("stem of nobody", () -> clerk.stem(3, 0));
+        CHECK.refusedArgument("heirs of NONE", () -> clerk.heirs(NONE));
+        CHECK.refusedArgument("heir of NONE", () -> clerk.heir(NONE, 0));
+        CHECK.refusedArgument("order of NONE", () -> clerk.order(NONE));
+        CHECK.refusedArgument("nobody's share", () -> clerk.share(0, 3));
+        CHECK.refusedArgument("NONE's share", () -> clerk.share(0, NONE));
+        CHECK.refusedArgument("nobody's stem", () -> clerk.stem(0, 3));
+        CHECK.refusedArgument("NONE's stem", () -> clerk.stem(0, NONE));
+        CHECK.refusedArgument("nobody's share of the living", () -> clerk.share(1, 3));
+        CHECK.refusedArgument("nobody's stem of the living", () -> clerk.stem(1, NONE));
+        CHECK.unchanged();
     }
 }

@@ -25,16 +25,18 @@ public final class MarriageTest {
         SuccessionClerk clerk = Check.clerkWith(5);
         clerk.marry(0, 1);
         clerk.dies(4, 1);
-        CHECK.refusedArgument(clerk, 5, "itself", () -> clerk.marry(2, 2));
-        CHECK.refusedArgument(clerk, 5, "itself, married", () -> clerk.marry(0, 0));
-        CHECK.refusedArgument(clerk, 5, "itself, dead", () -> clerk.marry(4, 4));
-        CHECK.refusedState(clerk, 5, "the first is married", () -> clerk.marry(0, 2));
-        CHECK.refusedState(clerk, 5, "the second is married", () -> clerk.marry(2, 1));
-        CHECK.refusedState(clerk, 5, "each other again", () -> clerk.marry(0, 1));
-        CHECK.refusedState(clerk, 5, "the first died", () -> clerk.marry(4, 2));
-        CHECK.refusedState(clerk, 5, "the second died", () -> clerk.marry(2, 4));
-        CHECK.refusedArgument(clerk, 5, "nobody second", () -> clerk.marry(0, 5));
-        CHECK.refusedArgument(clerk, 5, "nobody first", () -> clerk.marry(NONE, 4));
+        CHECK.watch(clerk, 5);
+        CHECK.refusedArgument("itself", () -> clerk.marry(2, 2));
+        CHECK.refusedArgument("itself, married", () -> clerk.marry(0, 0));
+        CHECK.refusedArgument("itself, dead", () -> clerk.marry(4, 4));
+        CHECK.refusedState("the first is married", () -> clerk.marry(0, 2));
+        CHECK.refusedState("the second is married", () -> clerk.marry(2, 1));
+        CHECK.refusedState("each other again", () -> clerk.marry(0, 1));
+        CHECK.refusedState("the first died", () -> clerk.marry(4, 2));
+        CHECK.refusedState("the second died", () -> clerk.marry(2, 4));
+        CHECK.refusedArgument("nobody second", () -> clerk.marry(0, 5));
+        CHECK.refusedArgument("nobody first", () -> clerk.marry(NONE, 4));
+        CHECK.unchanged();
     }
 
     private static void widowsMarryAgain() {
@@ -43,7 +45,9 @@ public final class MarriageTest {
         clerk.marry(2, 3);
         clerk.dies(0, 7);
         CHECK.same("a dead spouse", clerk.spouse(1), 0);
-        CHECK.refusedState(clerk, 4, "the other one's spouse lives", () -> clerk.marry(1, 2));
+        CHECK.watch(clerk, 4);
+        CHECK.refusedState("the other one's spouse lives", () -> clerk.marry(1, 2));
+        CHECK.unchanged();
         clerk.dies(3, 8);
         clerk.marry(1, 2);
         CHECK.same("married again", clerk.spouse(1), 2);
@@ -86,9 +90,11 @@ public final class MarriageTest {
 
     private static void wrongPersons() {
         SuccessionClerk clerk = Check.clerkWith(2);
-        CHECK.refusedArgument(clerk, 2, "divorce of nobody", () -> clerk.divorce(2));
-        CHECK.refusedArgument(clerk, 2, "divorce of NONE", () -> clerk.divorce(NONE));
-        CHECK.refusedArgument(clerk, 2, "spouse of nobody", () -> clerk.spouse(2));
-        CHECK.refusedArgument(clerk, 2, "spouse of NONE", () -> clerk.spouse(NONE));
+        CHECK.watch(clerk, 2);
+        CHECK.refusedArgument("divorce of nobody", () -> clerk.divorce(2));
+        CHECK.refusedArgument("divorce of NONE", () -> clerk.divorce(NONE));
+        CHECK.refusedArgument("spouse of nobody", () -> clerk.spouse(2));
+        CHECK.refusedArgument("spouse of NONE", () -> clerk.spouse(NONE));
+        CHECK.unchanged();
     }
 }

@@ -18,22 +18,24 @@ public final class PersonsTest {
         CHECK.same("NONE", SuccessionClerk.NONE, -1);
         CHECK.same("settle of nobody", clerk.settle(), 0);
         CHECK.same("got by the town", clerk.got(NONE), 0);
-        CHECK.refusedArgument(clerk, 0, "new: amend", () -> clerk.amend(0, NONE, NONE));
-        CHECK.refusedArgument(clerk, 0, "new: marry", () -> clerk.marry(0, 1));
-        CHECK.refusedArgument(clerk, 0, "new: divorce", () -> clerk.divorce(0));
-        CHECK.refusedArgument(clerk, 0, "new: spouse", () -> clerk.spouse(0));
-        CHECK.refusedArgument(clerk, 0, "new: dies", () -> clerk.dies(0, 0));
-        CHECK.refusedArgument(clerk, 0, "new: exclude", () -> clerk.exclude(0, 0, true));
-        CHECK.refusedArgument(clerk, 0, "new: gift", () -> clerk.gift(0, 0, 1));
-        CHECK.refusedArgument(clerk, 0, "new: estate", () -> clerk.estate(0, 0));
-        CHECK.refusedArgument(clerk, 0, "new: heirs", () -> clerk.heirs(0));
-        CHECK.refusedArgument(clerk, 0, "new: heir", () -> clerk.heir(0, 0));
-        CHECK.refusedArgument(clerk, 0, "new: share", () -> clerk.share(0, 0));
-        CHECK.refusedArgument(clerk, 0, "new: order", () -> clerk.order(0));
-        CHECK.refusedArgument(clerk, 0, "new: stem", () -> clerk.stem(0, 0));
-        CHECK.refusedArgument(clerk, 0, "new: paid", () -> clerk.paid(0, NONE));
-        CHECK.refusedArgument(clerk, 0, "new: total", () -> clerk.total(0));
-        CHECK.refusedArgument(clerk, 0, "new: got", () -> clerk.got(0));
+        CHECK.watch(clerk, 0);
+        CHECK.refusedArgument("new: amend", () -> clerk.amend(0, NONE, NONE));
+        CHECK.refusedArgument("new: marry", () -> clerk.marry(0, 1));
+        CHECK.refusedArgument("new: divorce", () -> clerk.divorce(0));
+        CHECK.refusedArgument("new: spouse", () -> clerk.spouse(0));
+        CHECK.refusedArgument("new: dies", () -> clerk.dies(0, 0));
+        CHECK.refusedArgument("new: exclude", () -> clerk.exclude(0, 0, true));
+        CHECK.refusedArgument("new: gift", () -> clerk.gift(0, 0, 1));
+        CHECK.refusedArgument("new: estate", () -> clerk.estate(0, 0));
+        CHECK.refusedArgument("new: heirs", () -> clerk.heirs(0));
+        CHECK.refusedArgument("new: heir", () -> clerk.heir(0, 0));
+        CHECK.refusedArgument("new: share", () -> clerk.share(0, 0));
+        CHECK.refusedArgument("new: order", () -> clerk.order(0));
+        CHECK.refusedArgument("new: stem", () -> clerk.stem(0, 0));
+        CHECK.refusedArgument("new: paid", () -> clerk.paid(0, NONE));
+        CHECK.refusedArgument("new: total", () -> clerk.total(0));
+        CHECK.refusedArgument("new: got", () -> clerk.got(0));
+        CHECK.unchanged();
         SuccessionClerk other = Check.clerkWith(2);
         other.estate(0, 50);
         other.dies(0, 1);
@@ -54,23 +56,27 @@ public final class PersonsTest {
 
     private static void wrongParents() {
         SuccessionClerk clerk = Check.clerkWith(2);
-        CHECK.refusedArgument(clerk, 2, "same parents", () -> clerk.person(1, 1));
-        CHECK.refusedArgument(clerk, 2, "its own first parent", () -> clerk.person(2, NONE));
-        CHECK.refusedArgument(clerk, 2, "its own second parent", () -> clerk.person(0, 2));
-        CHECK.refusedArgument(clerk, 2, "first parent -2", () -> clerk.person(-2, 0));
-        CHECK.refusedArgument(clerk, 2, "second parent -2", () -> clerk.person(NONE, -2));
-        CHECK.refusedArgument(clerk, 2, "greatest int", () -> clerk.person(Integer.MAX_VALUE, NONE));
-        CHECK.refusedArgument(clerk, 2, "least int", () -> clerk.person(NONE, Integer.MIN_VALUE));
+        CHECK.watch(clerk, 2);
+        CHECK.refusedArgument("same parents", () -> clerk.person(1, 1));
+        CHECK.refusedArgument("its own first parent", () -> clerk.person(2, NONE));
+        CHECK.refusedArgument("its own second parent", () -> clerk.person(0, 2));
+        CHECK.refusedArgument("first parent -2", () -> clerk.person(-2, 0));
+        CHECK.refusedArgument("second parent -2", () -> clerk.person(NONE, -2));
+        CHECK.refusedArgument("greatest int", () -> clerk.person(Integer.MAX_VALUE, NONE));
+        CHECK.refusedArgument("least int", () -> clerk.person(NONE, Integer.MIN_VALUE));
+        CHECK.unchanged();
         CHECK.same("next number", clerk.person(0, 1), 2);
     }
 
     private static void noMoreThanTwenty() {
         SuccessionClerk clerk = Check.clerkWith(19);
         CHECK.same("twentieth person", clerk.person(17, 18), 19);
-        CHECK.refusedState(clerk, 20, "the 21st", () -> clerk.person(NONE, NONE));
-        CHECK.refusedState(clerk, 20, "the 21st with parents", () -> clerk.person(0, 19));
-        CHECK.refusedArgument(clerk, 20, "the 21st, same parents", () -> clerk.person(3, 3));
-        CHECK.refusedArgument(clerk, 20, "the 21st, no such parent", () -> clerk.person(20, NONE));
+        CHECK.watch(clerk, 20);
+        CHECK.refusedState("the 21st", () -> clerk.person(NONE, NONE));
+        CHECK.refusedState("the 21st with parents", () -> clerk.person(0, 19));
+        CHECK.refusedArgument("the 21st, same parents", () -> clerk.person(3, 3));
+        CHECK.refusedArgument("the 21st, no such parent", () -> clerk.person(20, NONE));
+        CHECK.unchanged();
     }
 
     private static void amended() {
@@ -95,15 +101,17 @@ public final class PersonsTest {
         SuccessionClerk clerk = Check.clerkWith(4);
         clerk.amend(2, 0, 1);
         clerk.dies(0, 3);
-        CHECK.refusedArgument(clerk, 4, "no such person", () -> clerk.amend(4, 0, 1));
-        CHECK.refusedArgument(clerk, 4, "amend NONE", () -> clerk.amend(NONE, NONE, NONE));
-        CHECK.refusedArgument(clerk, 4, "the same parents", () -> clerk.amend(2, 1, 1));
-        CHECK.refusedArgument(clerk, 4, "itself first", () -> clerk.amend(2, 2, 1));
-        CHECK.refusedArgument(clerk, 4, "itself second", () -> clerk.amend(2, 1, 2));
-        CHECK.refusedArgument(clerk, 4, "a greater first", () -> clerk.amend(2, 3, NONE));
-        CHECK.refusedArgument(clerk, 4, "a greater second", () -> clerk.amend(2, NONE, 3));
-        CHECK.refusedArgument(clerk, 4, "nobody first", () -> clerk.amend(2, 9, 0));
-        CHECK.refusedArgument(clerk, 4, "nobody second", () -> clerk.amend(2, 0, -2));
+        CHECK.watch(clerk, 4);
+        CHECK.refusedArgument("no such person", () -> clerk.amend(4, 0, 1));
+        CHECK.refusedArgument("amend NONE", () -> clerk.amend(NONE, NONE, NONE));
+        CHECK.refusedArgument("the same parents", () -> clerk.amend(2, 1, 1));
+        CHECK.refusedArgument("itself first", () -> clerk.amend(2, 2, 1));
+        CHECK.refusedArgument("itself second", () -> clerk.amend(2, 1, 2));
+        CHECK.refusedArgument("a greater first", () -> clerk.amend(2, 3, NONE));
+        CHECK.refusedArgument("a greater second", () -> clerk.amend(2, NONE, 3));
+        CHECK.refusedArgument("nobody first", () -> clerk.amend(2, 9, 0));
+        CHECK.refusedArgument("nobody second", () -> clerk.amend(2, 0, -2));
+        CHECK.unchanged();
         CHECK.same("still a child", clerk.share(0, 2), Check.fraction(1, 1));
         CHECK.same("still a child of both", clerk.gift(2, 1, 7), 7);
     }

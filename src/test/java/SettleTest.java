@@ -339,15 +339,17 @@ public final class SettleTest {
     private static void wrongPersons() {
         SuccessionClerk clerk = parentOf(1, 100);
         clerk.settle();
-        CHECK.refusedArgument(clerk, 2, "paid of nobody", () -> clerk.paid(2, 0));
-        CHECK.refusedArgument(clerk, 2, "paid of NONE", () -> clerk.paid(NONE, 0));
-        CHECK.refusedArgument(clerk, 2, "paid to nobody", () -> clerk.paid(0, 2));
-        CHECK.refusedArgument(clerk, 2, "paid to the town's place", () -> clerk.paid(0, 20));
-        CHECK.refusedArgument(clerk, 2, "paid to -2", () -> clerk.paid(0, -2));
-        CHECK.refusedArgument(clerk, 2, "total of nobody", () -> clerk.total(2));
-        CHECK.refusedArgument(clerk, 2, "total of NONE", () -> clerk.total(NONE));
-        CHECK.refusedArgument(clerk, 2, "got by nobody", () -> clerk.got(2));
-        CHECK.refusedArgument(clerk, 2, "got by the town's place", () -> clerk.got(20));
-        CHECK.refusedArgument(clerk, 2, "got by -2", () -> clerk.got(-2));
+        CHECK.watch(clerk, 2);
+        CHECK.refusedArgument("paid of nobody", () -> clerk.paid(2, 0));
+        CHECK.refusedArgument("paid of NONE", () -> clerk.paid(NONE, 0));
+        CHECK.refusedArgument("paid to nobody", () -> clerk.paid(0, 2));
+        CHECK.refusedArgument("paid to the town's place", () -> clerk.paid(0, 20));
+        CHECK.refusedArgument("paid to -2", () -> clerk.paid(0, -2));
+        CHECK.refusedArgument("total of nobody", () -> clerk.total(2));
+        CHECK.refusedArgument("total of NONE", () -> clerk.total(NONE));
+        CHECK.refusedArgument("got by nobody", () -> clerk.got(2));
+        CHECK.refusedArgument("got by the town's place", () -> clerk.got(20));
+        CHECK.refusedArgument("got by -2", () -> clerk.got(-2));
+        CHECK.unchanged();
     }
 }
