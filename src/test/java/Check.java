@@ -1,10 +1,11 @@
+import java.util.function.BooleanSupplier;
+import java.util.function.LongSupplier;
+
 /** Counts the answers of a test that are not as due, and tells them. */
 final class Check {
-    private static final int NONE = SuccessionClerk.NONE;
     private int wrong;
-    private SuccessionClerk watched;
-    private int watchedPersons;
-    private String watchedState;
+    private Desk watched;
+    private String watchedAnswers;
 
     void same(String what, long got, long due) {
         if (got != due) {
@@ -13,7 +14,9 @@ final class Check {
     }
 
     void same(String what, boolean got, boolean due) {
-        same(what, got ? 1 : 0, due ? 1 : 0);
+        if (got != due) {
+            fail(what + " answered " + got + ", due is " + due);
+        }
     }
 
     void same(String what, String got, String due) {
@@ -22,23 +25,70 @@ final class Check {
         }
     }
 
-    /** Notes what the clerk tells of its persons, for unchanged. */
-    void watch(SuccessionClerk clerk, int persons) {
+    void share(Desk clerk, int of, int who, long numerator, long denominator) {
+        same("share(" + of + ", " + who + ")", told(clerk.share(of, who)), numerator + "/" + denominator);
+    }
+
+    void noShare(Desk clerk, int of, int who) {
+        same("share(" + of + ", " + who + ")", clerk.share(of, who), 0);
+    }
+
+    void paid(Desk clerk, int of, int who, long due) {
+        same("paid(" + of + ", " + who + ")", clerk.paid(of, who), due);
+    }
+
+    /** Settles anew, and what the persons were paid in turn, from 0 on. */
+    void settledTo(String what, Desk clerk, int of, long... due) {
+        clerk.settle();
+        for (int who = 0; who < due.length; who++) {
+            same(what + ": paid(" + of + ", " + who + ")", clerk.paid(of, who), due[who]);
+        }
+    }
+
+    /** Notes what later calls would answer, for unchanged. */
+    void watch(Desk clerk) {
         watched = clerk;
-        watchedPersons = persons;
-        watchedState = stateOf(clerk, persons);
+        watchedAnswers = Later.answers(clerk);
     }
 
     void unchanged() {
-        same("the state after calls that were refused", stateOf(watched, watchedPersons), watchedState);
+        unchangedAfter("calls that change nothing");
     }
 
     void refusedArgument(String what, Runnable call) {
-        same(what, outcomeOf(call), "IllegalArgumentException");
+        refused(what, call, "IllegalArgumentException");
     }
 
     void refusedState(String what, Runnable call) {
-        same(what, outcomeOf(call), "IllegalStateException");
+        refused(what, call, "IllegalStateException");
+    }
+
+    /** One refused call alone, and that nothing changed. */
+    void argumentAlone(String what, Desk clerk, Runnable call) {
+        watch(clerk);
+        refusedArgument(what, call);
+        unchangedAfter(what);
+    }
+
+    /** One refused call alone, and that nothing changed. */
+    void stateAlone(String what, Desk clerk, Runnable call) {
+        watch(clerk);
+        refusedState(what, call);
+        unchangedAfter(what);
+    }
+
+    /** One call alone that answers false, and that nothing changed. */
+    void falseAlone(String what, Desk clerk, BooleanSupplier call) {
+        watch(clerk);
+        same(what, call.getAsBoolean(), false);
+        unchangedAfter(what);
+    }
+
+    /** One question alone, its answer, and that nothing changed. */
+    void questionAlone(String what, Desk clerk, LongSupplier call, long due) {
+        watch(clerk);
+        same(what, call.getAsLong(), due);
+        unchangedAfter(what);
     }
 
     void fail(String what) {
@@ -57,44 +107,30 @@ final class Check {
         return numerator << 32 | denominator;
     }
 
-    static SuccessionClerk clerkWith(int persons) {
-        SuccessionClerk clerk = new SuccessionClerk();
-        for (int i = 0; i < persons; i++) {
-            clerk.person(NONE, NONE);
-        }
-        return clerk;
+    private static String told(long share) {
+        return (share >>> 32) + "/" + (share & 0xffffffffL);
     }
 
-    private static String outcomeOf(Runnable call) {
-        try {
+    private void refused(String what, Runnable call, String due) {
+        String outcome = Later.outcomeOf(() -> {
             call.run();
-            return "no exception";
-        } catch (RuntimeException e) {
-            return e.getClass().getSimpleName();
-        }
+            return 0;
+        });
+        same(what, outcome.equals("0") ? "not refused" : outcome, due);
     }
 
-    /** Begins with whether there are more persons than said. */
-    private static String stateOf(SuccessionClerk clerk, int persons) {
-        StringBuilder state = new StringBuilder();
-        state.append(outcomeOf(() -> clerk.spouse(persons))).append(' ').append(clerk.got(NONE));
-        for (int of = 0; of < persons; of++) {
-            int estate = of;
-            state.append('|').append(clerk.spouse(of)).append(' ').append(clerk.total(of));
-            state.append(' ').append(clerk.got(of));
-            if (outcomeOf(() -> clerk.order(estate)).equals("no exception")) {
-                appendEstate(state, clerk, of, persons);
-            }
+    private void unchangedAfter(String what) {
+        String answers = Later.answers(watched);
+        if (answers.equals(watchedAnswers)) {
+            return;
         }
-        return state.toString();
-    }
-
-    private static void appendEstate(StringBuilder state, SuccessionClerk clerk, int of, int persons) {
-        state.append(" order ").append(clerk.order(of)).append(" heirs ").append(clerk.heirs(of));
-        state.append(" town ").append(clerk.paid(of, NONE));
-        for (int who = 0; who < persons; who++) {
-            state.append(' ').append(clerk.share(of, who)).append(' ').append(clerk.stem(of, who));
-            state.append(' ').append(clerk.paid(of, who));
+        String[] got = answers.split("\n");
+        String[] due = watchedAnswers.split("\n");
+        int line = 0;
+        while (line < got.length && line < due.length && got[line].equals(due[line])) {
+            line++;
         }
+        fail("after " + what + " later calls answer '" + (line < got.length ? got[line] : "nothing more")
+            + "', due is '" + (line < due.length ? due[line] : "nothing more") + "'");
     }
 }

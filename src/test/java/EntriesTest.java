@@ -17,7 +17,7 @@ public final class EntriesTest {
     }
 
     private static void died() {
-        SuccessionClerk clerk = Check.clerkWith(1);
+        Desk clerk = Desk.with(1);
         clerk.person(0, NONE);
         clerk.person(0, NONE);
         clerk.person(0, NONE);
@@ -27,16 +27,16 @@ public final class EntriesTest {
         CHECK.same("heirs, one died before, one the same day", clerk.heirs(0), 1);
         clerk.dies(3, 501);
         CHECK.same("who died later is left", clerk.share(0, 3), Check.fraction(1, 1));
-        SuccessionClerk other = Check.clerkWith(2);
+        Desk other = Desk.with(2);
         other.dies(0, 0);
         other.dies(1, 999);
         CHECK.same("settled from the first day to the last", other.settle(), 2);
     }
 
     private static void wrongDeaths() {
-        SuccessionClerk clerk = Check.clerkWith(2);
+        Desk clerk = Desk.with(2);
         clerk.dies(0, 5);
-        CHECK.watch(clerk, 2);
+        CHECK.watch(clerk);
         CHECK.refusedState("died already", () -> clerk.dies(0, 6));
         CHECK.refusedState("died already that day", () -> clerk.dies(0, 5));
         CHECK.refusedArgument("died already, day 1000", () -> clerk.dies(0, 1000));
@@ -48,7 +48,7 @@ public final class EntriesTest {
     }
 
     private static void excluded() {
-        SuccessionClerk clerk = Check.clerkWith(1);
+        Desk clerk = Desk.with(1);
         clerk.person(0, NONE);
         clerk.person(0, NONE);
         clerk.person(1, NONE);
@@ -69,7 +69,7 @@ public final class EntriesTest {
     }
 
     private static boolean lastExcluded() {
-        SuccessionClerk clerk = Check.clerkWith(20);
+        Desk clerk = Desk.with(20);
         clerk.marry(19, 18);
         clerk.dies(19, 5);
         boolean took = clerk.order(19) == 4;
@@ -78,8 +78,8 @@ public final class EntriesTest {
     }
 
     private static void wrongExclusions() {
-        SuccessionClerk clerk = Check.clerkWith(2);
-        CHECK.watch(clerk, 2);
+        Desk clerk = Desk.with(2);
+        CHECK.watch(clerk);
         CHECK.refusedArgument("nobody excluded", () -> clerk.exclude(2, 0, true));
         CHECK.refusedArgument("NONE excluded", () -> clerk.exclude(NONE, 0, true));
         CHECK.refusedArgument("from nobody", () -> clerk.exclude(0, 2, true));
@@ -88,7 +88,7 @@ public final class EntriesTest {
     }
 
     private static void gifts() {
-        SuccessionClerk clerk = Check.clerkWith(2);
+        Desk clerk = Desk.with(2);
         clerk.person(0, 1);
         CHECK.same("a gift", clerk.gift(2, 0, 1), 1);
         CHECK.same("a further one", clerk.gift(2, 0, 41), 42);
@@ -101,11 +101,11 @@ public final class EntriesTest {
     }
 
     private static void wrongGifts() {
-        SuccessionClerk clerk = Check.clerkWith(2);
+        Desk clerk = Desk.with(2);
         clerk.person(0, NONE);
         clerk.person(2, NONE);
         clerk.gift(2, 0, 500000);
-        CHECK.watch(clerk, 4);
+        CHECK.watch(clerk);
         CHECK.refusedState("one cent too many", () -> clerk.gift(2, 0, 500001));
         CHECK.refusedState("far too many", () -> clerk.gift(2, 0, 1000000));
         CHECK.refusedArgument("a gift of 0", () -> clerk.gift(2, 0, 0));
@@ -124,14 +124,14 @@ public final class EntriesTest {
     }
 
     private static void giftsOutliveAmendments() {
-        SuccessionClerk clerk = Check.clerkWith(2);
+        Desk clerk = Desk.with(2);
         clerk.person(0, NONE);
         clerk.person(0, NONE);
         clerk.estate(0, 100);
         clerk.dies(0, 5);
         clerk.gift(2, 0, 60);
         clerk.amend(2, 1, NONE);
-        CHECK.watch(clerk, 4);
+        CHECK.watch(clerk);
         CHECK.refusedArgument("no parent any more", () -> clerk.gift(2, 0, 1));
         CHECK.unchanged();
         clerk.settle();
@@ -143,7 +143,7 @@ public final class EntriesTest {
     }
 
     private static void estates() {
-        SuccessionClerk clerk = Check.clerkWith(2);
+        Desk clerk = Desk.with(2);
         clerk.dies(0, 5);
         clerk.settle();
         CHECK.same("an estate at first", clerk.total(0), 0);
@@ -160,9 +160,9 @@ public final class EntriesTest {
     }
 
     private static void wrongEstates() {
-        SuccessionClerk clerk = Check.clerkWith(2);
+        Desk clerk = Desk.with(2);
         clerk.estate(0, 8);
-        CHECK.watch(clerk, 2);
+        CHECK.watch(clerk);
         CHECK.refusedArgument("-1 cents", () -> clerk.estate(0, -1));
         CHECK.refusedArgument("1000001 cents", () -> clerk.estate(0, 1000001));
         CHECK.refusedArgument("nobody's", () -> clerk.estate(2, 1));

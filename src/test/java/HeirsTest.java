@@ -23,12 +23,8 @@ public final class HeirsTest {
         CHECK.end();
     }
 
-    private static void share(SuccessionClerk clerk, int of, int who, long numerator, long denominator) {
-        CHECK.same("share(" + of + ", " + who + ")", clerk.share(of, who), Check.fraction(numerator, denominator));
-    }
-
     private static void childrenAndSpouse() {
-        SuccessionClerk clerk = Check.clerkWith(3);
+        Desk clerk = Desk.with(3);
         clerk.person(1, NONE);
         clerk.person(NONE, 1);
         clerk.person(1, 2);
@@ -43,9 +39,9 @@ public final class HeirsTest {
         CHECK.same("heir -1", clerk.heir(1, -1), NONE);
         CHECK.same("heir of the least int", clerk.heir(1, Integer.MIN_VALUE), NONE);
         CHECK.same("heir of the greatest int", clerk.heir(1, Integer.MAX_VALUE), NONE);
-        share(clerk, 1, 2, 1, 4);
-        share(clerk, 1, 3, 1, 4);
-        share(clerk, 1, 5, 1, 4);
+        CHECK.share(clerk, 1, 2, 1, 4);
+        CHECK.share(clerk, 1, 3, 1, 4);
+        CHECK.share(clerk, 1, 5, 1, 4);
         CHECK.same("no kin", clerk.share(1, 0), 0);
         CHECK.same("the deceased", clerk.share(1, 1), 0);
         CHECK.same("stem of a child", clerk.stem(1, 4), 4);
@@ -54,7 +50,7 @@ public final class HeirsTest {
     }
 
     private static void stemsOfTheGone() {
-        SuccessionClerk clerk = Check.clerkWith(1);
+        Desk clerk = Desk.with(1);
         clerk.person(0, NONE);
         clerk.person(0, NONE);
         clerk.person(1, NONE);
@@ -63,34 +59,34 @@ public final class HeirsTest {
         clerk.person(3, NONE);
         clerk.person(3, NONE);
         clerk.dies(0, 10);
-        share(clerk, 0, 1, 1, 2);
+        CHECK.share(clerk, 0, 1, 1, 2);
         CHECK.same("behind a living child", clerk.share(0, 3), 0);
         clerk.dies(1, 10);
-        share(clerk, 0, 3, 1, 6);
+        CHECK.share(clerk, 0, 3, 1, 6);
         clerk.exclude(3, 0, true);
-        share(clerk, 0, 6, 1, 12);
-        share(clerk, 0, 4, 1, 6);
-        share(clerk, 0, 2, 1, 2);
+        CHECK.share(clerk, 0, 6, 1, 12);
+        CHECK.share(clerk, 0, 4, 1, 6);
+        CHECK.share(clerk, 0, 2, 1, 2);
         CHECK.same("heirs", clerk.heirs(0), 5);
         CHECK.same("a great-grandchild's stem", clerk.stem(0, 7), 1);
         CHECK.same("the stem of one who is gone", clerk.stem(0, 3), NONE);
     }
 
     private static void stemsWithoutHeirs() {
-        SuccessionClerk clerk = Check.clerkWith(1);
+        Desk clerk = Desk.with(1);
         clerk.person(0, NONE);
         clerk.person(0, NONE);
         clerk.person(1, NONE);
         clerk.dies(0, 10);
         clerk.dies(1, 3);
         clerk.dies(3, 4);
-        share(clerk, 0, 2, 1, 1);
+        CHECK.share(clerk, 0, 2, 1, 1);
         CHECK.same("heirs", clerk.heirs(0), 1);
         CHECK.same("the stem without heirs", clerk.stem(0, 3), NONE);
     }
 
     private static void stemsThatMeet() {
-        SuccessionClerk clerk = Check.clerkWith(1);
+        Desk clerk = Desk.with(1);
         clerk.person(0, NONE);
         clerk.person(0, NONE);
         clerk.person(0, NONE);
@@ -99,55 +95,55 @@ public final class HeirsTest {
         clerk.dies(0, 10);
         clerk.dies(1, 5);
         clerk.dies(2, 5);
-        share(clerk, 0, 4, 1, 2);
-        share(clerk, 0, 5, 1, 6);
-        share(clerk, 0, 3, 1, 3);
+        CHECK.share(clerk, 0, 4, 1, 2);
+        CHECK.share(clerk, 0, 5, 1, 6);
+        CHECK.share(clerk, 0, 3, 1, 3);
         CHECK.same("the least of two stems", clerk.stem(0, 4), 1);
         clerk.exclude(4, 0, true);
         CHECK.same("now in neither", clerk.stem(0, 4), NONE);
-        share(clerk, 0, 5, 1, 2);
+        CHECK.share(clerk, 0, 5, 1, 2);
     }
 
     private static void parentsAndSiblings() {
-        SuccessionClerk clerk = Check.clerkWith(2);
+        Desk clerk = Desk.with(2);
         clerk.person(0, 1);
         clerk.person(0, 1);
         clerk.person(0, NONE);
         clerk.dies(2, 100);
         CHECK.same("order of parents", clerk.order(2), 1);
-        share(clerk, 2, 0, 1, 2);
-        share(clerk, 2, 1, 1, 2);
+        CHECK.share(clerk, 2, 0, 1, 2);
+        CHECK.share(clerk, 2, 1, 1, 2);
         CHECK.same("a sibling behind parents", clerk.share(2, 3), 0);
         clerk.dies(0, 50);
-        share(clerk, 2, 3, 1, 4);
-        share(clerk, 2, 4, 1, 4);
-        share(clerk, 2, 1, 1, 2);
+        CHECK.share(clerk, 2, 3, 1, 4);
+        CHECK.share(clerk, 2, 4, 1, 4);
+        CHECK.share(clerk, 2, 1, 1, 2);
         clerk.dies(1, 50);
-        share(clerk, 2, 3, 3, 4);
-        share(clerk, 2, 4, 1, 4);
+        CHECK.share(clerk, 2, 3, 3, 4);
+        CHECK.share(clerk, 2, 4, 1, 4);
         CHECK.same("a sibling's stem is the lesser parent", clerk.stem(2, 3), 0);
         clerk.exclude(0, 2, true);
-        share(clerk, 2, 3, 3, 4);
+        CHECK.share(clerk, 2, 3, 3, 4);
     }
 
     private static void oneLineAlone() {
-        SuccessionClerk clerk = Check.clerkWith(2);
+        Desk clerk = Desk.with(2);
         clerk.person(0, 1);
         clerk.person(NONE, 1);
         clerk.dies(2, 100);
         clerk.dies(0, 50);
-        share(clerk, 2, 1, 1, 1);
+        CHECK.share(clerk, 2, 1, 1, 1);
         clerk.dies(1, 50);
-        share(clerk, 2, 3, 1, 1);
+        CHECK.share(clerk, 2, 3, 1, 1);
         CHECK.same("a half sibling's stem", clerk.stem(2, 3), 1);
-        SuccessionClerk other = Check.clerkWith(1);
+        Desk other = Desk.with(1);
         other.person(NONE, 0);
         other.dies(1, 1);
-        share(other, 1, 0, 1, 1);
+        CHECK.share(other, 1, 0, 1, 1);
     }
 
     private static void grandparents() {
-        SuccessionClerk clerk = Check.clerkWith(4);
+        Desk clerk = Desk.with(4);
         clerk.person(0, 1);
         clerk.person(2, 3);
         clerk.person(4, 5);
@@ -158,24 +154,24 @@ public final class HeirsTest {
         clerk.dies(5, 9);
         CHECK.same("order of grandparents", clerk.order(6), 2);
         for (int who = 0; who < 4; who++) {
-            share(clerk, 6, who, 1, 4);
+            CHECK.share(clerk, 6, who, 1, 4);
             CHECK.same("stem of a grandparent", clerk.stem(6, who), who);
         }
         clerk.dies(0, 8);
-        share(clerk, 6, 7, 1, 8);
-        share(clerk, 6, 8, 1, 8);
+        CHECK.share(clerk, 6, 7, 1, 8);
+        CHECK.share(clerk, 6, 8, 1, 8);
         CHECK.same("stem of an uncle", clerk.stem(6, 8), 0);
         clerk.exclude(2, 6, true);
-        share(clerk, 6, 3, 1, 2);
+        CHECK.share(clerk, 6, 3, 1, 2);
         clerk.exclude(3, 6, true);
-        share(clerk, 6, 1, 1, 2);
-        share(clerk, 6, 7, 1, 4);
+        CHECK.share(clerk, 6, 1, 1, 2);
+        CHECK.share(clerk, 6, 7, 1, 4);
         clerk.exclude(1, 6, true);
-        share(clerk, 6, 7, 1, 2);
+        CHECK.share(clerk, 6, 7, 1, 2);
     }
 
     private static void greatGrandparents() {
-        SuccessionClerk clerk = Check.clerkWith(2);
+        Desk clerk = Desk.with(2);
         clerk.person(0, 1);
         clerk.person(2, NONE);
         clerk.person(NONE, 3);
@@ -184,14 +180,14 @@ public final class HeirsTest {
             clerk.dies(who, who == 4 ? 100 : 1);
         }
         CHECK.same("order of great-grandparents", clerk.order(4), 3);
-        share(clerk, 4, 0, 1, 2);
-        share(clerk, 4, 1, 1, 2);
+        CHECK.share(clerk, 4, 0, 1, 2);
+        CHECK.share(clerk, 4, 1, 1, 2);
         clerk.dies(0, 2);
-        share(clerk, 4, 5, 1, 2);
+        CHECK.share(clerk, 4, 5, 1, 2);
         CHECK.same("stem of a great-uncle", clerk.stem(4, 5), 0);
         clerk.dies(5, 2);
-        share(clerk, 4, 1, 1, 1);
-        SuccessionClerk other = Check.clerkWith(1);
+        CHECK.share(clerk, 4, 1, 1, 1);
+        Desk other = Desk.with(1);
         for (int who = 1; who <= 4; who++) {
             other.person(who - 1, NONE);
             other.dies(who, who == 4 ? 100 : 1);
@@ -201,23 +197,23 @@ public final class HeirsTest {
     }
 
     private static void ancestorTwice() {
-        SuccessionClerk clerk = Check.clerkWith(2);
+        Desk clerk = Desk.with(2);
         clerk.person(0, NONE);
         clerk.person(0, 1);
         clerk.person(2, 3);
         clerk.dies(4, 100);
         clerk.dies(2, 1);
         clerk.dies(3, 1);
-        share(clerk, 4, 0, 3, 4);
-        share(clerk, 4, 1, 1, 4);
+        CHECK.share(clerk, 4, 0, 3, 4);
+        CHECK.share(clerk, 4, 1, 1, 4);
         CHECK.same("heirs", clerk.heirs(4), 2);
         clerk.amend(4, 2, 0);
         CHECK.same("a parent who is a grandparent too", clerk.order(4), 1);
-        share(clerk, 4, 0, 1, 1);
+        CHECK.share(clerk, 4, 0, 1, 1);
     }
 
     private static void spouseAndOrders() {
-        SuccessionClerk clerk = Check.clerkWith(1);
+        Desk clerk = Desk.with(1);
         clerk.person(0, NONE);
         clerk.person(1, NONE);
         clerk.person(2, NONE);
@@ -225,61 +221,61 @@ public final class HeirsTest {
         clerk.person(NONE, NONE);
         clerk.marry(3, 5);
         clerk.dies(3, 100);
-        share(clerk, 3, 5, 1, 4);
-        share(clerk, 3, 4, 3, 4);
+        CHECK.share(clerk, 3, 5, 1, 4);
+        CHECK.share(clerk, 3, 4, 3, 4);
         clerk.exclude(4, 3, true);
         CHECK.same("order with a parent", clerk.order(3), 1);
-        share(clerk, 3, 5, 1, 2);
-        share(clerk, 3, 2, 1, 2);
+        CHECK.share(clerk, 3, 5, 1, 2);
+        CHECK.share(clerk, 3, 2, 1, 2);
         clerk.dies(2, 1);
         CHECK.same("order with a grandparent", clerk.order(3), 2);
-        share(clerk, 3, 5, 1, 2);
-        share(clerk, 3, 1, 1, 2);
+        CHECK.share(clerk, 3, 5, 1, 2);
+        CHECK.share(clerk, 3, 1, 1, 2);
         clerk.dies(1, 1);
         CHECK.same("the spouse alone", clerk.order(3), 4);
-        share(clerk, 3, 5, 1, 1);
+        CHECK.share(clerk, 3, 5, 1, 1);
         CHECK.same("no great-grandparent", clerk.share(3, 0), 0);
         CHECK.same("no stem", clerk.stem(3, 0), NONE);
         CHECK.same("heirs", clerk.heirs(3), 1);
         clerk.dies(5, 100);
         CHECK.same("order without the spouse", clerk.order(3), 3);
-        share(clerk, 3, 0, 1, 1);
+        CHECK.share(clerk, 3, 0, 1, 1);
         CHECK.same("stem of a great-grandparent", clerk.stem(3, 0), 0);
     }
 
     private static void spouseWhoIsKin() {
-        SuccessionClerk clerk = Check.clerkWith(1);
+        Desk clerk = Desk.with(1);
         clerk.person(0, NONE);
         clerk.person(0, NONE);
         clerk.marry(1, 2);
         clerk.dies(1, 100);
         clerk.dies(0, 1);
         CHECK.same("order of a sibling", clerk.order(1), 1);
-        share(clerk, 1, 2, 1, 1);
+        CHECK.share(clerk, 1, 2, 1, 1);
         CHECK.same("stem of a spouse who is kin", clerk.stem(1, 2), 0);
         clerk.amend(2, 1, NONE);
         clerk.person(1, NONE);
-        share(clerk, 1, 2, 5, 8);
-        share(clerk, 1, 3, 3, 8);
+        CHECK.share(clerk, 1, 2, 5, 8);
+        CHECK.share(clerk, 1, 3, 3, 8);
     }
 
     private static void spouseNotLeft() {
-        SuccessionClerk clerk = Check.clerkWith(2);
+        Desk clerk = Desk.with(2);
         clerk.person(0, NONE);
         clerk.marry(0, 1);
         clerk.dies(0, 50);
         clerk.exclude(1, 0, true);
-        share(clerk, 0, 2, 1, 1);
+        CHECK.share(clerk, 0, 2, 1, 1);
         CHECK.same("an excluded spouse", clerk.share(0, 1), 0);
         clerk.exclude(1, 0, false);
         clerk.dies(1, 51);
-        share(clerk, 0, 1, 1, 4);
+        CHECK.share(clerk, 0, 1, 1, 4);
         CHECK.same("who died before inherits nothing", clerk.share(1, 0), 0);
         CHECK.same("no stepchild", clerk.order(1), 5);
     }
 
     private static void town() {
-        SuccessionClerk clerk = Check.clerkWith(2);
+        Desk clerk = Desk.with(2);
         clerk.dies(0, 50);
         CHECK.same("order", clerk.order(0), 5);
         CHECK.same("heirs", clerk.heirs(0), 0);
@@ -290,7 +286,7 @@ public final class HeirsTest {
 
     /** A chain where each one but the last two has the next two as children. */
     private static void manyBranches() {
-        SuccessionClerk clerk = Check.clerkWith(2);
+        Desk clerk = Desk.with(2);
         clerk.marry(0, 1);
         clerk.person(0, NONE);
         clerk.person(0, 2);
@@ -302,14 +298,14 @@ public final class HeirsTest {
                 clerk.dies(who, 5);
             }
         }
-        share(clerk, 0, 1, 1, 4);
+        CHECK.share(clerk, 0, 1, 1, 4);
         // Steps of 1 or 2, alike, hit the 17th place with (2 - 1/2^17)/3; three quarters of that.
-        share(clerk, 0, 18, 262143, 524288);
-        share(clerk, 0, 19, 131073, 524288);
+        CHECK.share(clerk, 0, 18, 262143, 524288);
+        CHECK.share(clerk, 0, 19, 131073, 524288);
     }
 
     private static void leastStem() {
-        SuccessionClerk clerk = Check.clerkWith(2);
+        Desk clerk = Desk.with(2);
         clerk.person(1, NONE);
         clerk.person(0, NONE);
         clerk.person(2, 3);
@@ -322,19 +318,19 @@ public final class HeirsTest {
         CHECK.same("the lesser number, not the first line", clerk.stem(4, 5), 0);
         clerk.amend(5, 1, NONE);
         CHECK.same("the only one", clerk.stem(4, 5), 1);
-        SuccessionClerk other = Check.clerkWith(1);
+        Desk other = Desk.with(1);
         other.person(0, NONE);
         other.person(0, 1);
         other.dies(0, 5);
         other.dies(1, 4);
         CHECK.same("a child that is a grandchild too", other.stem(0, 2), 1);
-        share(other, 0, 2, 1, 1);
+        CHECK.share(other, 0, 2, 1, 1);
     }
 
     private static void wrongCalls() {
-        SuccessionClerk clerk = Check.clerkWith(3);
+        Desk clerk = Desk.with(3);
         clerk.dies(0, 1);
-        CHECK.watch(clerk, 3);
+        CHECK.watch(clerk);
         CHECK.refusedState("heirs of the living", () -> clerk.heirs(1));
         CHECK.refusedState("heir of the living", () -> clerk.heir(1, 0));
         CHECK.refusedState("share of the living", () -> clerk.share(1, 0));

@@ -14,7 +14,7 @@ public final class MarriageTest {
     }
 
     private static void married() {
-        SuccessionClerk clerk = Check.clerkWith(3);
+        Desk clerk = Desk.with(3);
         clerk.marry(2, 0);
         CHECK.same("spouse of 2", clerk.spouse(2), 0);
         CHECK.same("spouse of 0", clerk.spouse(0), 2);
@@ -22,10 +22,10 @@ public final class MarriageTest {
     }
 
     private static void wrongMarriages() {
-        SuccessionClerk clerk = Check.clerkWith(5);
+        Desk clerk = Desk.with(5);
         clerk.marry(0, 1);
         clerk.dies(4, 1);
-        CHECK.watch(clerk, 5);
+        CHECK.watch(clerk);
         CHECK.refusedArgument("itself", () -> clerk.marry(2, 2));
         CHECK.refusedArgument("itself, married", () -> clerk.marry(0, 0));
         CHECK.refusedArgument("itself, dead", () -> clerk.marry(4, 4));
@@ -40,12 +40,12 @@ public final class MarriageTest {
     }
 
     private static void widowsMarryAgain() {
-        SuccessionClerk clerk = Check.clerkWith(4);
+        Desk clerk = Desk.with(4);
         clerk.marry(0, 1);
         clerk.marry(2, 3);
         clerk.dies(0, 7);
         CHECK.same("a dead spouse", clerk.spouse(1), 0);
-        CHECK.watch(clerk, 4);
+        CHECK.watch(clerk);
         CHECK.refusedState("the other one's spouse lives", () -> clerk.marry(1, 2));
         CHECK.unchanged();
         clerk.dies(3, 8);
@@ -62,7 +62,7 @@ public final class MarriageTest {
     }
 
     private static void divorced() {
-        SuccessionClerk clerk = Check.clerkWith(3);
+        Desk clerk = Desk.with(3);
         CHECK.same("divorce without a spouse", clerk.divorce(0), false);
         clerk.marry(0, 1);
         CHECK.same("divorce by the second", clerk.divorce(1), true);
@@ -76,7 +76,7 @@ public final class MarriageTest {
     }
 
     private static void notDivorced() {
-        SuccessionClerk clerk = Check.clerkWith(2);
+        Desk clerk = Desk.with(2);
         clerk.marry(0, 1);
         clerk.dies(1, 0);
         CHECK.same("divorce from the dead", clerk.divorce(0), false);
@@ -89,8 +89,8 @@ public final class MarriageTest {
     }
 
     private static void wrongPersons() {
-        SuccessionClerk clerk = Check.clerkWith(2);
-        CHECK.watch(clerk, 2);
+        Desk clerk = Desk.with(2);
+        CHECK.watch(clerk);
         CHECK.refusedArgument("divorce of nobody", () -> clerk.divorce(2));
         CHECK.refusedArgument("divorce of NONE", () -> clerk.divorce(NONE));
         CHECK.refusedArgument("spouse of nobody", () -> clerk.spouse(2));

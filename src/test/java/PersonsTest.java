@@ -14,11 +14,11 @@ public final class PersonsTest {
     }
 
     private static void newObject() {
-        SuccessionClerk clerk = new SuccessionClerk();
+        Desk clerk = new Desk();
         CHECK.same("NONE", SuccessionClerk.NONE, -1);
         CHECK.same("settle of nobody", clerk.settle(), 0);
         CHECK.same("got by the town", clerk.got(NONE), 0);
-        CHECK.watch(clerk, 0);
+        CHECK.watch(clerk);
         CHECK.refusedArgument("new: amend", () -> clerk.amend(0, NONE, NONE));
         CHECK.refusedArgument("new: marry", () -> clerk.marry(0, 1));
         CHECK.refusedArgument("new: divorce", () -> clerk.divorce(0));
@@ -36,7 +36,7 @@ public final class PersonsTest {
         CHECK.refusedArgument("new: total", () -> clerk.total(0));
         CHECK.refusedArgument("new: got", () -> clerk.got(0));
         CHECK.unchanged();
-        SuccessionClerk other = Check.clerkWith(2);
+        Desk other = Desk.with(2);
         other.estate(0, 50);
         other.dies(0, 1);
         other.settle();
@@ -44,7 +44,7 @@ public final class PersonsTest {
     }
 
     private static void numbersRise() {
-        SuccessionClerk clerk = new SuccessionClerk();
+        Desk clerk = new Desk();
         CHECK.same("first person", clerk.person(NONE, NONE), 0);
         CHECK.same("second person", clerk.person(NONE, 0), 1);
         CHECK.same("third person", clerk.person(1, 0), 2);
@@ -55,8 +55,8 @@ public final class PersonsTest {
     }
 
     private static void wrongParents() {
-        SuccessionClerk clerk = Check.clerkWith(2);
-        CHECK.watch(clerk, 2);
+        Desk clerk = Desk.with(2);
+        CHECK.watch(clerk);
         CHECK.refusedArgument("same parents", () -> clerk.person(1, 1));
         CHECK.refusedArgument("its own first parent", () -> clerk.person(2, NONE));
         CHECK.refusedArgument("its own second parent", () -> clerk.person(0, 2));
@@ -69,9 +69,9 @@ public final class PersonsTest {
     }
 
     private static void noMoreThanTwenty() {
-        SuccessionClerk clerk = Check.clerkWith(19);
+        Desk clerk = Desk.with(19);
         CHECK.same("twentieth person", clerk.person(17, 18), 19);
-        CHECK.watch(clerk, 20);
+        CHECK.watch(clerk);
         CHECK.refusedState("the 21st", () -> clerk.person(NONE, NONE));
         CHECK.refusedState("the 21st with parents", () -> clerk.person(0, 19));
         CHECK.refusedArgument("the 21st, same parents", () -> clerk.person(3, 3));
@@ -80,7 +80,7 @@ public final class PersonsTest {
     }
 
     private static void amended() {
-        SuccessionClerk clerk = Check.clerkWith(2);
+        Desk clerk = Desk.with(2);
         clerk.person(0, NONE);
         clerk.dies(0, 5);
         clerk.dies(1, 5);
@@ -98,10 +98,10 @@ public final class PersonsTest {
     }
 
     private static void wrongAmendments() {
-        SuccessionClerk clerk = Check.clerkWith(4);
+        Desk clerk = Desk.with(4);
         clerk.amend(2, 0, 1);
         clerk.dies(0, 3);
-        CHECK.watch(clerk, 4);
+        CHECK.watch(clerk);
         CHECK.refusedArgument("no such person", () -> clerk.amend(4, 0, 1));
         CHECK.refusedArgument("amend NONE", () -> clerk.amend(NONE, NONE, NONE));
         CHECK.refusedArgument("the same parents", () -> clerk.amend(2, 1, 1));

@@ -22,13 +22,9 @@ public final class SettleTest {
         CHECK.end();
     }
 
-    private static void paid(SuccessionClerk clerk, int of, int who, long due) {
-        CHECK.same("paid(" + of + ", " + who + ")", clerk.paid(of, who), due);
-    }
-
     /** One parent, number 0, with so many children and an estate, who died on day 5. */
-    private static SuccessionClerk parentOf(int children, int cents) {
-        SuccessionClerk clerk = Check.clerkWith(1);
+    private static Desk parentOf(int children, int cents) {
+        Desk clerk = Desk.with(1);
         for (int i = 0; i < children; i++) {
             clerk.person(0, NONE);
         }
@@ -38,41 +34,41 @@ public final class SettleTest {
     }
 
     private static void nothingSettled() {
-        SuccessionClerk clerk = parentOf(1, 100);
-        paid(clerk, 0, 1, 0);
-        paid(clerk, 0, NONE, 0);
+        Desk clerk = parentOf(1, 100);
+        CHECK.paid(clerk, 0, 1, 0);
+        CHECK.paid(clerk, 0, NONE, 0);
         CHECK.same("total before", clerk.total(0), 0);
         CHECK.same("got before", clerk.got(1), 0);
         CHECK.same("got by the town before", clerk.got(NONE), 0);
         CHECK.same("settle", clerk.settle(), 1);
-        paid(clerk, 0, 1, 100);
+        CHECK.paid(clerk, 0, 1, 100);
         CHECK.same("total", clerk.total(0), 100);
         CHECK.same("total of the living", clerk.total(1), 0);
         int late = clerk.person(0, NONE);
-        paid(clerk, 0, late, 0);
-        paid(clerk, late, 0, 0);
+        CHECK.paid(clerk, 0, late, 0);
+        CHECK.paid(clerk, late, 0, 0);
         CHECK.same("total of a late one", clerk.total(late), 0);
         CHECK.same("got by a late one", clerk.got(late), 0);
     }
 
     private static void roundedToTheCent() {
-        SuccessionClerk clerk = parentOf(3, 11);
+        Desk clerk = parentOf(3, 11);
         clerk.settle();
-        paid(clerk, 0, 1, 4);
-        paid(clerk, 0, 2, 4);
-        paid(clerk, 0, 3, 3);
+        CHECK.paid(clerk, 0, 1, 4);
+        CHECK.paid(clerk, 0, 2, 4);
+        CHECK.paid(clerk, 0, 3, 3);
         clerk.estate(0, 1);
         clerk.settle();
-        paid(clerk, 0, 1, 1);
-        paid(clerk, 0, 2, 0);
+        CHECK.paid(clerk, 0, 1, 1);
+        CHECK.paid(clerk, 0, 2, 0);
         clerk.estate(0, 9);
         clerk.settle();
-        paid(clerk, 0, 3, 3);
+        CHECK.paid(clerk, 0, 3, 3);
     }
 
     /** Shares of a half, and six times a twelfth: the rests of 17 cents are 6/12, and 5/12 each. */
     private static void greatestRestsFirst() {
-        SuccessionClerk clerk = Check.clerkWith(1);
+        Desk clerk = Desk.with(1);
         clerk.person(0, NONE);
         clerk.person(0, NONE);
         for (int i = 0; i < 6; i++) {
@@ -82,42 +78,42 @@ public final class SettleTest {
         clerk.dies(0, 5);
         clerk.estate(0, 17);
         clerk.settle();
-        paid(clerk, 0, 2, 9);
-        paid(clerk, 0, 3, 2);
-        paid(clerk, 0, 4, 2);
-        paid(clerk, 0, 5, 1);
-        paid(clerk, 0, 8, 1);
+        CHECK.paid(clerk, 0, 2, 9);
+        CHECK.paid(clerk, 0, 3, 2);
+        CHECK.paid(clerk, 0, 4, 2);
+        CHECK.paid(clerk, 0, 5, 1);
+        CHECK.paid(clerk, 0, 8, 1);
         clerk.estate(0, 11);
         clerk.settle();
         // The rests of 11 cents are 6/12 and 11/12 each: the half's is the least now.
-        paid(clerk, 0, 2, 5);
-        paid(clerk, 0, 3, 1);
-        paid(clerk, 0, 8, 1);
+        CHECK.paid(clerk, 0, 2, 5);
+        CHECK.paid(clerk, 0, 3, 1);
+        CHECK.paid(clerk, 0, 8, 1);
     }
 
     private static void restsOfTheSpouse() {
-        SuccessionClerk clerk = Check.clerkWith(2);
+        Desk clerk = Desk.with(2);
         clerk.person(1, NONE);
         clerk.marry(0, 1);
         clerk.estate(1, 2);
         clerk.dies(1, 5);
         clerk.settle();
         // Dues of 2/4 and 6/4: equal rests, and the spouse has the lesser number.
-        paid(clerk, 1, 0, 1);
-        paid(clerk, 1, 2, 1);
+        CHECK.paid(clerk, 1, 0, 1);
+        CHECK.paid(clerk, 1, 2, 1);
         clerk.estate(1, 3);
         clerk.settle();
         // Dues of 3/4 and 9/4.
-        paid(clerk, 1, 0, 1);
-        paid(clerk, 1, 2, 2);
+        CHECK.paid(clerk, 1, 0, 1);
+        CHECK.paid(clerk, 1, 2, 2);
         clerk.estate(1, 1);
         clerk.settle();
-        paid(clerk, 1, 0, 0);
-        paid(clerk, 1, 2, 1);
+        CHECK.paid(clerk, 1, 0, 0);
+        CHECK.paid(clerk, 1, 2, 1);
     }
 
     private static void successiveDeaths() {
-        SuccessionClerk clerk = Check.clerkWith(1);
+        Desk clerk = Desk.with(1);
         clerk.person(0, NONE);
         clerk.person(1, NONE);
         clerk.person(2, NONE);
@@ -133,9 +129,9 @@ public final class SettleTest {
         CHECK.same("total of the third", clerk.total(2), 123);
         CHECK.same("got by the second", clerk.got(1), 100);
         CHECK.same("got by the last", clerk.got(3), 123);
-        paid(clerk, 0, 3, 0);
-        paid(clerk, 2, 3, 123);
-        SuccessionClerk upward = Check.clerkWith(1);
+        CHECK.paid(clerk, 0, 3, 0);
+        CHECK.paid(clerk, 2, 3, 123);
+        Desk upward = Desk.with(1);
         upward.person(0, NONE);
         upward.person(0, NONE);
         upward.estate(1, 40);
@@ -143,12 +139,12 @@ public final class SettleTest {
         upward.dies(0, 2);
         upward.settle();
         CHECK.same("a parent who inherits and dies", upward.total(0), 40);
-        paid(upward, 0, 2, 40);
+        CHECK.paid(upward, 0, 2, 40);
         CHECK.same("got from the parent", upward.got(2), 40);
     }
 
     private static void deathsOfOneDay() {
-        SuccessionClerk clerk = Check.clerkWith(2);
+        Desk clerk = Desk.with(2);
         clerk.marry(0, 1);
         clerk.person(0, 1);
         clerk.estate(0, 10);
@@ -159,44 +155,44 @@ public final class SettleTest {
         CHECK.same("total of the one", clerk.total(0), 10);
         CHECK.same("total of the other", clerk.total(1), 7);
         CHECK.same("got from both", clerk.got(2), 17);
-        paid(clerk, 0, 1, 0);
-        paid(clerk, 1, 0, 0);
+        CHECK.paid(clerk, 0, 1, 0);
+        CHECK.paid(clerk, 1, 0, 0);
     }
 
     private static void townIsPaid() {
-        SuccessionClerk clerk = Check.clerkWith(3);
+        Desk clerk = Desk.with(3);
         clerk.estate(0, 10);
         clerk.estate(1, 5);
         clerk.dies(0, 4);
         clerk.dies(1, 3);
         CHECK.same("settle", clerk.settle(), 2);
-        paid(clerk, 0, NONE, 10);
-        paid(clerk, 1, NONE, 5);
-        paid(clerk, 2, NONE, 0);
+        CHECK.paid(clerk, 0, NONE, 10);
+        CHECK.paid(clerk, 1, NONE, 5);
+        CHECK.paid(clerk, 2, NONE, 0);
         CHECK.same("got by the town", clerk.got(NONE), 15);
         CHECK.same("got by nobody else", clerk.got(2), 0);
-        SuccessionClerk full = Check.clerkWith(20);
+        Desk full = Desk.with(20);
         full.estate(19, 3);
         full.dies(19, 1);
         full.settle();
-        paid(full, 19, NONE, 3);
-        paid(full, 19, 18, 0);
+        CHECK.paid(full, 19, NONE, 3);
+        CHECK.paid(full, 19, 18, 0);
     }
 
     private static void settledAnew() {
-        SuccessionClerk clerk = parentOf(2, 100);
+        Desk clerk = parentOf(2, 100);
         clerk.settle();
         clerk.settle();
-        paid(clerk, 0, 1, 50);
+        CHECK.paid(clerk, 0, 1, 50);
         CHECK.same("got once", clerk.got(1), 50);
         clerk.exclude(1, 0, true);
-        paid(clerk, 0, 1, 50);
+        CHECK.paid(clerk, 0, 1, 50);
         clerk.dies(2, 6);
         CHECK.same("not among those settled last", clerk.total(2), 0);
         CHECK.same("settle anew", clerk.settle(), 2);
-        paid(clerk, 0, 1, 0);
-        paid(clerk, 0, 2, 100);
-        paid(clerk, 2, 1, 100);
+        CHECK.paid(clerk, 0, 1, 0);
+        CHECK.paid(clerk, 0, 2, 100);
+        CHECK.paid(clerk, 2, 1, 100);
         CHECK.same("total of the later dead", clerk.total(2), 100);
         clerk.exclude(1, 2, true);
         clerk.settle();
@@ -204,25 +200,25 @@ public final class SettleTest {
         clerk.exclude(1, 2, false);
         clerk.settle();
         CHECK.same("the town no more", clerk.got(NONE), 0);
-        paid(clerk, 2, NONE, 0);
+        CHECK.paid(clerk, 2, NONE, 0);
     }
 
     private static void giftsBroughtIn() {
-        SuccessionClerk clerk = parentOf(3, 100);
+        Desk clerk = parentOf(3, 100);
         clerk.gift(1, 0, 20);
         clerk.gift(2, 0, 30);
         clerk.settle();
-        paid(clerk, 0, 1, 30);
-        paid(clerk, 0, 2, 20);
-        paid(clerk, 0, 3, 50);
+        CHECK.paid(clerk, 0, 1, 30);
+        CHECK.paid(clerk, 0, 2, 20);
+        CHECK.paid(clerk, 0, 3, 50);
         CHECK.same("shares are without gifts", clerk.share(0, 1), Check.fraction(1, 3));
         clerk.gift(2, 0, 20);
         clerk.settle();
         // An equal part of 170/3: dues of 110/3, 20/3 and 170/3.
-        paid(clerk, 0, 1, 37);
-        paid(clerk, 0, 2, 7);
-        paid(clerk, 0, 3, 56);
-        SuccessionClerk other = Check.clerkWith(2);
+        CHECK.paid(clerk, 0, 1, 37);
+        CHECK.paid(clerk, 0, 2, 7);
+        CHECK.paid(clerk, 0, 3, 56);
+        Desk other = Desk.with(2);
         other.marry(0, 1);
         other.person(0, 1);
         other.person(0, NONE);
@@ -230,41 +226,41 @@ public final class SettleTest {
         other.estate(0, 100);
         other.dies(0, 5);
         other.settle();
-        paid(other, 0, 1, 25);
-        paid(other, 0, 2, 25);
-        paid(other, 0, 3, 50);
+        CHECK.paid(other, 0, 1, 25);
+        CHECK.paid(other, 0, 2, 25);
+        CHECK.paid(other, 0, 3, 50);
     }
 
     private static void giftsAboveAnEqualPart() {
-        SuccessionClerk clerk = parentOf(3, 60);
+        Desk clerk = parentOf(3, 60);
         clerk.gift(1, 0, 30);
         clerk.settle();
         // Just an equal part.
-        paid(clerk, 0, 1, 0);
-        paid(clerk, 0, 2, 30);
+        CHECK.paid(clerk, 0, 1, 0);
+        CHECK.paid(clerk, 0, 2, 30);
         clerk.gift(1, 0, 1000);
         clerk.settle();
-        paid(clerk, 0, 1, 0);
-        paid(clerk, 0, 2, 30);
-        paid(clerk, 0, 3, 30);
+        CHECK.paid(clerk, 0, 1, 0);
+        CHECK.paid(clerk, 0, 2, 30);
+        CHECK.paid(clerk, 0, 3, 30);
         CHECK.same("still an heir", clerk.heirs(0), 3);
         CHECK.same("still with a share", clerk.share(0, 1), Check.fraction(1, 3));
         clerk.gift(2, 0, 100);
         clerk.settle();
         // The second is below an equal part until the first is in no more.
-        paid(clerk, 0, 1, 0);
-        paid(clerk, 0, 2, 0);
-        paid(clerk, 0, 3, 60);
-        SuccessionClerk reversed = parentOf(3, 60);
+        CHECK.paid(clerk, 0, 1, 0);
+        CHECK.paid(clerk, 0, 2, 0);
+        CHECK.paid(clerk, 0, 3, 60);
+        Desk reversed = parentOf(3, 60);
         reversed.gift(3, 0, 1030);
         reversed.gift(2, 0, 100);
         reversed.settle();
-        paid(reversed, 0, 1, 60);
-        paid(reversed, 0, 2, 0);
+        CHECK.paid(reversed, 0, 1, 60);
+        CHECK.paid(reversed, 0, 2, 0);
     }
 
     private static void giftsOfTheGone() {
-        SuccessionClerk clerk = parentOf(3, 90);
+        Desk clerk = parentOf(3, 90);
         clerk.person(1, NONE);
         clerk.person(1, NONE);
         clerk.dies(1, 2);
@@ -274,26 +270,26 @@ public final class SettleTest {
         clerk.gift(4, 1, 500);
         clerk.settle();
         // The third stem has no heirs: its gifts do not count; nor do those of the dead child.
-        paid(clerk, 0, 2, 50);
-        paid(clerk, 0, 4, 20);
-        paid(clerk, 0, 5, 20);
+        CHECK.paid(clerk, 0, 2, 50);
+        CHECK.paid(clerk, 0, 4, 20);
+        CHECK.paid(clerk, 0, 5, 20);
         clerk.gift(1, 0, 100);
         clerk.settle();
-        paid(clerk, 0, 2, 90);
-        paid(clerk, 0, 4, 0);
+        CHECK.paid(clerk, 0, 2, 90);
+        CHECK.paid(clerk, 0, 4, 0);
         CHECK.same("got by none of that stem", clerk.got(5), 0);
     }
 
     private static void giftsThatDoNotCount() {
-        SuccessionClerk clerk = Check.clerkWith(2);
+        Desk clerk = Desk.with(2);
         clerk.person(0, 1);
         clerk.person(0, 1);
         clerk.estate(0, 50);
         clerk.gift(2, 1, 50);
         clerk.dies(0, 1);
         clerk.settle();
-        paid(clerk, 0, 2, 25);
-        SuccessionClerk siblings = Check.clerkWith(1);
+        CHECK.paid(clerk, 0, 2, 25);
+        Desk siblings = Desk.with(1);
         siblings.person(0, NONE);
         siblings.person(0, NONE);
         siblings.person(0, NONE);
@@ -303,25 +299,25 @@ public final class SettleTest {
         siblings.dies(1, 2);
         siblings.settle();
         // Not in the order 1.
-        paid(siblings, 1, 2, 25);
-        paid(siblings, 1, 3, 25);
+        CHECK.paid(siblings, 1, 2, 25);
+        CHECK.paid(siblings, 1, 3, 25);
     }
 
     private static void giftsAndNothingLeft() {
-        SuccessionClerk clerk = parentOf(2, 0);
+        Desk clerk = parentOf(2, 0);
         clerk.gift(1, 0, 9);
         CHECK.same("settle", clerk.settle(), 1);
-        paid(clerk, 0, 1, 0);
-        paid(clerk, 0, 2, 0);
+        CHECK.paid(clerk, 0, 1, 0);
+        CHECK.paid(clerk, 0, 2, 0);
         clerk.gift(2, 0, 9);
         clerk.settle();
-        paid(clerk, 0, 1, 0);
-        paid(clerk, 0, 2, 0);
+        CHECK.paid(clerk, 0, 1, 0);
+        CHECK.paid(clerk, 0, 2, 0);
         CHECK.same("total", clerk.total(0), 0);
     }
 
     private static void greatTotals() {
-        SuccessionClerk clerk = Check.clerkWith(1);
+        Desk clerk = Desk.with(1);
         clerk.estate(0, 1000000);
         for (int who = 1; who < 20; who++) {
             clerk.person(who - 1, NONE);
@@ -337,9 +333,9 @@ public final class SettleTest {
     }
 
     private static void wrongPersons() {
-        SuccessionClerk clerk = parentOf(1, 100);
+        Desk clerk = parentOf(1, 100);
         clerk.settle();
-        CHECK.watch(clerk, 2);
+        CHECK.watch(clerk);
         CHECK.refusedArgument("paid of nobody", () -> clerk.paid(2, 0));
         CHECK.refusedArgument("paid of NONE", () -> clerk.paid(NONE, 0));
         CHECK.refusedArgument("paid to nobody", () -> clerk.paid(0, 2));
