@@ -15,6 +15,7 @@ public final class LeftTest {
         leftTakesAll();
         goneChildrenTakeAlike();
         onlyStemsWithHeirs();
+        heirsHaveShares();
         stemOfMostChildren();
         deepestStem();
         stemThroughBothParents();
@@ -196,6 +197,24 @@ public final class LeftTest {
         clerk.exclude(5, 0, false);
         CHECK.share(clerk, 0, 5, 1, 1);
         CHECK.same("the order 0 by a great-grandchild", clerk.order(0), 0);
+    }
+
+    /** "HEIRS are the persons with a share above 0." */
+    private static void heirsHaveShares() {
+        Desk clerk = Desk.parentOf(4);
+        clerk.childOf(2);
+        clerk.dies(0, 5);
+        clerk.dies(2, 5);
+        clerk.exclude(3, 0, true);
+        int[] heirs = {1, 4, 5};
+        CHECK.same("heirs", clerk.heirs(0), heirs.length);
+        for (int i = 0; i < heirs.length; i++) {
+            CHECK.same("heir " + i, clerk.heir(0, i), heirs[i]);
+            CHECK.share(clerk, 0, heirs[i], 1, 3);
+        }
+        for (int who : new int[] {0, 2, 3}) {
+            CHECK.noShare(clerk, 0, who);
+        }
     }
 
     private static void stemOfMostChildren() {

@@ -13,6 +13,7 @@ public final class MarriageTest {
         CHECK.end();
     }
 
+    /** "Two persons are each other's spouse from now on."; "NONE when it has none" */
     private static void married() {
         Desk clerk = Desk.with(3);
         clerk.marry(2, 0);
@@ -75,6 +76,7 @@ public final class MarriageTest {
         CHECK.same("spouse of 2", clerk.spouse(2), NONE);
     }
 
+    /** "A person's spouse (who may have died)" */
     private static void notDivorced() {
         Desk clerk = Desk.with(2);
         clerk.marry(0, 1);

@@ -39,7 +39,7 @@ public final class OrdersTest {
         return clerk;
     }
 
-    /** "The first order that has heirs ... takes the rest." */
+    /** "The first order that has heirs ... takes the rest."; "0 .. 3 the order that has the rest" */
     private static void ordersInTurn() {
         Desk clerk = ladder();
         int[] takers = {4, 2, 1, 0};
@@ -132,7 +132,10 @@ public final class OrdersTest {
         }
     }
 
-    /** The lines of grandparents: 0 and 1 by the parent 4, 2 and 3 by the parent 5. */
+    /**
+     * "(A line has heirs if the stem, or one of the lines, that it consists of has.)" The lines of
+     * grandparents: 0 and 1 by the parent 4, 2 and 3 by the parent 5.
+     */
     private static void grandparentsNotKnown() {
         Desk clerk = Desk.with(4);
         clerk.person(0, 1);
@@ -404,7 +407,7 @@ public final class OrdersTest {
         CHECK.same("got by the spouse", clerk.got(1), 0);
     }
 
-    /** "in lowest terms, the numerator in the upper 32 bits, the denominator in the lower ones" */
+    /** "in lowest terms, the numerator in the upper 32 bits, the denominator in the lower ones; 0 for none" */
     private static void lowestTerms() {
         Desk clerk = Desk.with(2);
         clerk.marry(0, 1);

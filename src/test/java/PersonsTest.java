@@ -13,6 +13,7 @@ public final class PersonsTest {
         CHECK.end();
     }
 
+    /** "Nobody is entered, nothing was settled." */
     private static void newObject() {
         Desk clerk = new Desk();
         CHECK.same("NONE", SuccessionClerk.NONE, -1);

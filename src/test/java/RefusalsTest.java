@@ -152,6 +152,7 @@ public final class RefusalsTest {
         CHECK.same("the spouse of the second", clerk.spouse(1), 0);
     }
 
+    /** "IllegalArgumentException: they are the same." */
     private static void marriagesNamedFirst() {
         argument("named first: itself, and it died", clerk -> clerk.marry(5, 5));
         argument("named first: itself, and it died, a spouse", clerk -> clerk.marry(1, 1));
@@ -212,6 +213,7 @@ public final class RefusalsTest {
         }
     }
 
+    /** "IllegalArgumentException: day is not 0 .. 999.", which is named first. */
     private static void deathsNamedFirst() {
         argument("named first: the day -1, and it died", clerk -> clerk.dies(1, -1));
         argument("named first: the day 1000, and it died", clerk -> clerk.dies(1, 1000));
@@ -266,6 +268,7 @@ public final class RefusalsTest {
         CHECK.same("to a dead child", clerk.gift(5, 2, 4), 4);
     }
 
+    /** "or cents not 1 .. 1000000", which is named before all its gifts. */
     private static void giftsNamedFirst() {
         argument("named first: 0 cents, and it has all", clerk -> clerk.gift(3, 0, 0));
         argument("named first: 1000001 cents, and it has all", clerk -> clerk.gift(3, 0, MOST + 1));
