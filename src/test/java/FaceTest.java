@@ -10,6 +10,7 @@ import java.util.stream.Collectors;
 /** The public face: just what the document has, and nothing else that can be seen. */
 public final class FaceTest {
     private static final Check CHECK = new Check();
+    private static final Class<?> FACE = SuccessionClerk.class;
     private static final String ARGUMENT = " IllegalArgumentException";
     private static final String BOTH = " IllegalArgumentException IllegalStateException";
     private static final String[] METHODS = {
@@ -22,24 +23,58 @@ public final class FaceTest {
     };
 
     public static void main(String[] args) {
-        Class<?> face = SuccessionClerk.class;
-        CHECK.same("modifiers", Modifier.toString(face.getModifiers()), "public final");
-        CHECK.same("package", face.getPackageName(), "");
+        CHECK.same("modifiers", Modifier.toString(FACE.getModifiers()), "public final");
+        CHECK.same("package", FACE.getPackageName(), "");
+        CHECK.same("above it", FACE.getSuperclass() == Object.class && FACE.getInterfaces().length == 0, true);
+        methods();
+        constructor();
+        constant();
+        classesInside();
+        CHECK.end();
+    }
+
+    private static void methods() {
         Set<String> seen = new TreeSet<>();
-        for (Method method : face.getDeclaredMethods()) {
+        Set<String> names = new TreeSet<>();
+        for (Method method : FACE.getDeclaredMethods()) {
             if (!Modifier.isPrivate(method.getModifiers())) {
                 seen.add(told(method));
+                names.add(method.getName());
             }
         }
         CHECK.same("methods", seen.toString(), new TreeSet<>(Arrays.asList(METHODS)).toString());
-        for (Constructor<?> constructor : face.getDeclaredConstructors()) {
+        for (Method method : FACE.getDeclaredMethods()) {
+            if (Modifier.isPrivate(method.getModifiers())) {
+                CHECK.same(method + " bears the name of a public one", names.contains(method.getName()), false);
+            }
+        }
+    }
+
+    private static void constructor() {
+        CHECK.same("how many constructors", FACE.getDeclaredConstructors().length, 1);
+        for (Constructor<?> constructor : FACE.getDeclaredConstructors()) {
             CHECK.same("constructor", constructor.toString(), "public SuccessionClerk()");
         }
-        for (Field field : face.getDeclaredFields()) {
-            CHECK.same("field " + field, Modifier.isPrivate(field.getModifiers()), !field.getName().equals("NONE"));
+    }
+
+    private static void constant() {
+        Set<String> seen = new TreeSet<>();
+        for (Field field : FACE.getDeclaredFields()) {
+            if (!Modifier.isPrivate(field.getModifiers())) {
+                seen.add(field.toString());
+            }
         }
+        CHECK.same("fields", seen.toString(), "[public static final int SuccessionClerk.NONE]");
         CHECK.same("NONE", SuccessionClerk.NONE, -1);
-        CHECK.end();
+    }
+
+    /** LANGUAGE.md, 1: private or package-visible, and static. */
+    private static void classesInside() {
+        for (Class<?> inside : FACE.getDeclaredClasses()) {
+            int is = inside.getModifiers();
+            CHECK.same(inside + " can be seen", Modifier.isPublic(is) || Modifier.isProtected(is), false);
+            CHECK.same(inside + " is static", Modifier.isStatic(is), true);
+        }
     }
 
     private static String told(Method method) {
